@@ -2,32 +2,76 @@
 public final class P07DropTest {
     public static void main(String[] args) {
         Due due = new Due("P07DropTest");
-        LibraryDesk x = new LibraryDesk();
-        for (int i = 0; i < 40; i++) {
-            x.make(2);
-        }
-        due.is("drop the first", x.drop(2, 1), true);
-        due.is("drop the last", x.drop(2, 40), true);
-        due.is("drop one between", x.drop(2, 33), true);
-        due.is("drop it twice", x.drop(2, 33), false);
-        due.is("numbers", x.numbers(2), 37);
-        due.is("here", x.here(2, 33), false);
-        due.is("here beside it", x.here(2, 32), true);
-        due.is("here 32 below it", x.here(2, 8), true);
-        due.is("drop of another kind", x.drop(1, 2), false);
-        int[] wrongNumbers = {0, -1, 41, 64, 66, 63, -62, Integer.MIN_VALUE, Integer.MAX_VALUE};
-        for (int number : wrongNumbers) {
-            due.is("drop of no number", x.drop(2, number), false);
-        }
-        int[] wrongKinds = {-1, 8, Integer.MIN_VALUE, Integer.MAX_VALUE};
-        for (int kind : wrongKinds) {
-            due.is("drop of no kind", x.drop(kind, 2), false);
-        }
-        due.is("numbers after wrong ones", x.numbers(2), 37);
-        x.make(4);
-        due.is("drop of one not made yet", x.drop(4, 2), false);
-        due.is("make it then", x.make(4), 2);
-        due.is("it is here", x.here(4, 2), true);
+        aNumberIsDropped(due);
+        falseIfNotMadeYet(due);
+        falseIfDroppedBefore(due);
+        falseIfThereIsNoSuchNumber(due);
+        falseIfThereIsNoSuchKind(due);
         due.end();
+    }
+
+    private static void aNumberIsDropped(Due due) {
+        due.sentence("A number is dropped: true");
+        Desk x = new Desk();
+        x.make(2, 40);
+        for (int number = 1; number <= 40; number++) {
+            due.is("drop(2, " + number + ")", x.drop(2, number), true);
+            due.is("here(2, " + number + ")", x.here(2, number), false);
+            due.is("here of the next", x.here(2, number + 1), number < 40);
+            due.is("numbers(2)", x.numbers(2), 40 - number);
+        }
+    }
+
+    private static void falseIfNotMadeYet(Due due) {
+        due.sentence("false if it is not HERE: not made yet");
+        Desk x = new Desk();
+        due.is("drop(4, 1) with none made", x.drop(4, 1), false);
+        due.is("make(4)", x.make(4), 1);
+        due.is("drop(4, 2) with one made", x.drop(4, 2), false);
+        due.is("make(4)", x.make(4), 2);
+        due.is("here(4, 2)", x.here(4, 2), true);
+        due.is("drop(3, 1), of another kind", x.drop(3, 1), false);
+        due.is("here(4, 1)", x.here(4, 1), true);
+    }
+
+    private static void falseIfDroppedBefore(Due due) {
+        due.sentence("false if it is not HERE: dropped before, by a call too");
+        Desk x = new Desk();
+        x.make(0, 3);
+        x.wants(0, 0);
+        x.act(0, 6, 0);
+        x.act(1, 1, 0);
+        due.is("drop(0, 2)", x.drop(0, 2), true);
+        due.is("drop(0, 2) twice", x.drop(0, 2), false);
+        x.call(0, 1, 0);
+        due.is("drop(0, 1), dropped as the called", x.drop(0, 1), false);
+        due.is("drop(0, 3) is due still: here", x.here(0, 3), true);
+        x.call(1, 0, 0);
+        due.is("drop(0, 3), dropped as the greatest", x.drop(0, 3), false);
+        due.is("numbers(0)", x.numbers(0), 0);
+    }
+
+    private static void falseIfThereIsNoSuchNumber(Due due) {
+        due.sentence("false if it is not HERE: no such number");
+        Desk x = new Desk();
+        x.make(2, 40);
+        for (int number : Outside.NUMBERS) {
+            due.is("drop(2, " + number + ")", x.drop(2, number), false);
+        }
+        due.is("numbers(2)", x.numbers(2), 40);
+    }
+
+    private static void falseIfThereIsNoSuchKind(Due due) {
+        due.sentence("false if it is not HERE: no such KIND");
+        Desk x = new Desk();
+        for (int kind = 0; kind <= 7; kind++) {
+            x.make(kind);
+        }
+        for (int kind : Outside.KINDS) {
+            due.is("drop(" + kind + ", 1)", x.drop(kind, 1), false);
+        }
+        for (int kind = 0; kind <= 7; kind++) {
+            due.is("here(" + kind + ", 1)", x.here(kind, 1), true);
+        }
     }
 }
