@@ -8,6 +8,15 @@ final class Desk {
     private final LibraryDesk desk = new LibraryDesk();
     private int calls;
 
+    /** Call 0 has all its acts; act i grows the tally of kind i by a. */
+    static Desk withSixActs() {
+        Desk x = new Desk();
+        for (int i = 0; i < 6; i++) {
+            x.act(0, 2, i);
+        }
+        return x;
+    }
+
     private LibraryDesk next() {
         calls++;
         if (calls > MOST_CALLS) {

@@ -11,17 +11,9 @@ public final class P05FailsTest {
         due.end();
     }
 
-    private static Desk withSixActs() {
-        Desk x = new Desk();
-        for (int i = 0; i < 6; i++) {
-            x.act(0, 2, i);
-        }
-        return x;
-    }
-
     private static void eachActWithEach(Due due) {
         due.sentence("A call is to FAIL at its i-th ACT, from 0 on, 0 .. 5, with 1 .. 5: 1");
-        Desk x = withSixActs();
+        Desk x = Desk.withSixActs();
         for (int i = 0; i <= 5; i++) {
             for (int with = 1; with <= 5; with++) {
                 due.is("fails(0, " + i + ", " + with + ")", x.fails(0, i, with), 1);
@@ -36,14 +28,14 @@ public final class P05FailsTest {
         due.sentence("in place of what was told before");
         for (int i = 0; i <= 5; i++) {
             for (int later = 0; later <= 5; later++) {
-                Desk x = withSixActs();
+                Desk x = Desk.withSixActs();
                 due.is("fails", x.fails(0, i, 1), 1);
                 due.is("fails anew", x.fails(0, later, 2), 1);
                 due.failed(x, x.call(0, 0, 1), 2, later);
                 due.is("call, nothing being left of the first", x.call(0, 0, 1), 1);
             }
         }
-        Desk x = withSixActs();
+        Desk x = Desk.withSixActs();
         x.act(1, 2, 0);
         x.fails(0, 3, 5);
         due.is("fails of another call", x.fails(1, 0, 4), 1);
@@ -59,7 +51,7 @@ public final class P05FailsTest {
 
     private static void noSuchCall(Due due) {
         due.sentence("0 if one of these can't be: a call");
-        Desk x = withSixActs();
+        Desk x = Desk.withSixActs();
         x.fails(0, 2, 3);
         for (int call : Outside.CALLS) {
             due.is("fails(" + call + ", 0, 1)", x.fails(call, 0, 1), 0);
@@ -69,7 +61,7 @@ public final class P05FailsTest {
 
     private static void noSuchAct(Due due) {
         due.sentence("0 if one of these can't be: an ACT, 0 .. 5");
-        Desk x = withSixActs();
+        Desk x = Desk.withSixActs();
         x.fails(0, 2, 3);
         for (int i : Outside.ACTS) {
             due.is("fails(0, " + i + ", 1)", x.fails(0, i, 1), 0);
@@ -82,7 +74,7 @@ public final class P05FailsTest {
 
     private static void noSuchWith(Due due) {
         due.sentence("0 if one of these can't be: with 1 .. 5");
-        Desk x = withSixActs();
+        Desk x = Desk.withSixActs();
         x.fails(0, 2, 3);
         for (int with : Outside.WITHS) {
             due.is("fails(0, 0, " + with + ")", x.fails(0, 0, with), 0);

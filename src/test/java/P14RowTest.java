@@ -62,18 +62,21 @@ public final class P14RowTest {
         due.row(x, 4, 5);
     }
 
-    /** Not a class above or below it: a caller may catch it by name. */
+    /** Not a class above or below it, and by a throw statement: the machine's own would tell index and length. */
     private static void theClassItself(Due due) {
         due.sentence("row(int i) throws ArrayIndexOutOfBoundsException");
         int[] wrong = {-1, 0, 20, Integer.MIN_VALUE, Integer.MAX_VALUE};
         for (int i : wrong) {
             boolean exact = false;
+            boolean thrownByTheMachine = false;
             try {
                 new LibraryDesk().row(i);
             } catch (RuntimeException e) {
                 exact = e.getClass() == ArrayIndexOutOfBoundsException.class;
+                thrownByTheMachine = String.valueOf(e.getMessage()).contains("out of bounds for length");
             }
             due.is("row(" + i + ") throws just that", exact, true);
+            due.is("row(" + i + ") lets the machine throw", thrownByTheMachine, false);
         }
     }
 }

@@ -14,19 +14,11 @@ public final class T08ToldToFailTest {
         due.end();
     }
 
-    private static Desk withSixActs() {
-        Desk x = new Desk();
-        for (int i = 0; i < 6; i++) {
-            x.act(0, 2, i);
-        }
-        return x;
-    }
-
     private static void insteadOfDoingThatOne(Due due) {
         due.sentence("If it was told to FAIL at an act, with 1 to 5, it does so instead of doing that one");
         for (int i = 0; i <= 5; i++) {
             for (int with = 1; with <= 5; with++) {
-                Desk x = withSixActs();
+                Desk x = Desk.withSixActs();
                 x.fails(0, i, with);
                 due.failed(x, x.call(0, 8, 1), with, i);
                 due.told(x, 0, 0, 1, with, i, 0, 8);
@@ -53,7 +45,7 @@ public final class T08ToldToFailTest {
 
     private static void onceAndThenAsBefore(Due due) {
         due.sentence("once: the next time it is as before");
-        Desk x = withSixActs();
+        Desk x = Desk.withSixActs();
         for (int time = 1; time <= 3; time++) {
             due.is("fails(0, 3, 2)", x.fails(0, 3, 2), 1);
             due.failed(x, x.call(0, 0, 1), 2, 3);
@@ -98,7 +90,7 @@ public final class T08ToldToFailTest {
 
     private static void usedUpIfItWasThat(Due due) {
         due.sentence("but what it was told to FAIL with is used up, if it was that");
-        Desk x = withSixActs();
+        Desk x = Desk.withSixActs();
         x.fails(0, 0, 5);
         due.is("again, which uses nothing up", x.again(0, 0, 1), LibraryDesk.FAILED);
         due.is("again, which uses nothing up", x.again(0, 0, 1), LibraryDesk.FAILED);
@@ -126,7 +118,7 @@ public final class T08ToldToFailTest {
 
     private static void notUsedUpByARefusedCall(Due due) {
         due.sentence("is used up, if it was that: not by a REFUSED call");
-        Desk x = withSixActs();
+        Desk x = Desk.withSixActs();
         x.fails(0, 0, 2);
         x.wants(0, 0);
         due.is("call that is refused", x.call(0, 1, 1), LibraryDesk.REFUSED);
